@@ -219,6 +219,9 @@ public final class DeedsTest {
         Due.due("drift without persons", nobody.drift(1), 1);
         Due.due("one draw alone", nobody.seed(0), 12345);
         Due.due("a draw of 0 is rain", nobody.told(7), 1);
+        SecondBest one = Due.of("k0 1;p1 1 1 1;");
+        one.drift(1);
+        Due.row("one alone", new int[] {one.person(0, 4), one.seed(0)}, 8, 654583775);
         SecondBest y = Due.of(THREE);
         Due.due("drift(30)", y.drift(30), 30);
         SecondBest z = Due.of(THREE);

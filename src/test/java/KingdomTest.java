@@ -78,6 +78,8 @@ public final class KingdomTest {
 
     private static void texts() {
         stands("", 0);
+        // blanks may stand anywhere: alone they are read as the empty text
+        stands("   ", 0);
         stands("k0 1;", 0);
         stands("k2 9;", 0);
         stands("  k  001   009  ;  ", 0);
@@ -181,6 +183,8 @@ public final class KingdomTest {
         Due.due("what could be undone is gone", x.undo(1), Due.NOT);
         Due.due("the log is gone", x.logged(0, 0), Due.NONE);
         Due.due("the seed stays", x.seed(9), 5);
+        Due.due("a third text", Due.tell(x, "k0 1;"), 0);
+        Due.row("nothing is left of the first", new int[] {x.told(2), x.told(3), x.told(4), x.ahead(1)}, 0, 0, 0, 0);
         x.keep(1);
         Due.due("an empty text", x.kingdom(), 0);
         Due.due("no kingdom", x.told(0), Due.NONE);

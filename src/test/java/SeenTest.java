@@ -25,7 +25,8 @@ public final class SeenTest {
             Due.due("see(" + far + ", 0)", x.see(far, 0), Due.OUTSIDE);
             Due.due("see(0, " + far + ")", x.see(0, far), Due.OUTSIDE);
         }
-        for (int i = 1; i <= 6; i++) {
+        Due.due("see(0, 0)", x.see(0, 0), 1);
+        for (int i = 2; i <= 6; i++) {
             Due.due("see to " + i, x.see(9, 99), i);
         }
         Due.due("a seventh", x.see(9, 99), Due.FULL);
@@ -51,6 +52,10 @@ public final class SeenTest {
         z.tear();
         z.see(9, 99);
         Due.row("above the most", new int[] {z.truly(0), z.truly(1)}, 0, -1);
+        z.tear();
+        z.see(9, 90);
+        z.see(8, 80);
+        Due.row("a gift of 10 is none", new int[] {z.truly(0), z.truly(1)}, 0, -1);
         Due.due("truly(2)", x.truly(2), Due.OUTSIDE);
         Due.due("truly(-1)", x.truly(-1), Due.OUTSIDE);
         for (int far : Due.FAR) {
@@ -103,8 +108,9 @@ public final class SeenTest {
         x.day(1);
         Due.due("the first now", x.judge(), 0);
         SecondBest y = Due.of(FOUR);
-        y.write(0, 0);
         y.write(2, 0);
+        y.write(1, Due.NONE);
+        y.write(0, 0);
         y.day(1);
         Due.due("as told", y.judge(), Due.NONE);
         y.undo(1);

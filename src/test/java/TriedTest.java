@@ -159,6 +159,12 @@ public final class TriedTest {
         }
         SecondBest one = Due.of("k0 1;p1 1 1 1;");
         Due.due("one alone", one.letWin(0, 0, 0), Due.NONE);
+        // both are first together with 9 left each; if one lets alone, 2 is the third yet
+        SecondBest all = Due.of("k2 1;p9 0 0 9;p8 0 0 9;p1 0 0 0;");
+        Due.row("all others must", new int[] {all.letWin(2, 0, 0), all.letWin(2, 0, 1)}, 2, 3);
+        // 20 20 30 10: both of 20, or the one of 30
+        SecondBest fewer = Due.of("k2 1;p4 0 0 0;p4 0 0 0;p6 0 0 0;p2 0 0 0;");
+        Due.row("fewer ahead of the least", new int[] {fewer.letWin(3, 0, 0), fewer.letWin(3, 0, 1)}, 1, 4);
     }
 
     private static void winning() {
@@ -168,6 +174,7 @@ public final class TriedTest {
         // 16 by 4, as 2 has, who has the greater number
         Due.due("win(1, 0, 1)", x.win(1, 0, 1), 4);
         Due.due("an office of no day", x.win(0, 1, 60), Due.NONE);
+        Due.due("there is no effort of 10", Due.of("k0 1;p1 0 0 0;p8 0 0 0;p2 0 0 0;o0;").win(0, 0, 1), Due.NONE);
         for (int p = 0; p < 3; p++) {
             for (int n = 1; n <= 12; n++) {
                 Due.due("win(" + p + ", 0, " + n + ")", x.win(p, 0, n), leastByDoing(p, n));
