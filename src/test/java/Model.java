@@ -347,6 +347,9 @@ final class Model {
         if (told.law == NONE) {
             return NOT;
         }
+        if (world.days > 90000) {
+            return FULL;
+        }
         for (int i = 0; i < n; i++) {
             remember();
             if (draws && !world.people.isEmpty()) {
