@@ -68,7 +68,7 @@ public final class RefusedTest {
         }
         // from here on each asking changes what there is, in both alike
         String undone = which == 2 ? "undo 31 1" : "undo 2 1";
-        for (String ask : new String[] {undone, "person 4 8", "goBack 2 1", "told 17 1", "seed 1 1", "tear 1 1"}) {
+        for (String ask : new String[] {"seed 1 1", undone, "person 4 8", "goBack 2 1", "told 17 1", "seed 1 1", "tear 1 1"}) {
             compare(call, ask, x, y);
         }
         for (String ask : new String[] {"kingdom 1 1", "fault 1 1", "told 5 1", "person 1 4"}) {
