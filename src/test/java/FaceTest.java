@@ -1,4 +1,5 @@
 import java.io.IOException;
+import java.lang.reflect.Array;
 import java.lang.reflect.Constructor;
 import java.lang.reflect.Field;
 import java.lang.reflect.Method;
@@ -6,6 +7,8 @@ import java.lang.reflect.Modifier;
 import java.nio.file.Files;
 import java.nio.file.Path;
 import java.util.Arrays;
+import java.util.IdentityHashMap;
+import java.util.Map;
 import java.util.Set;
 import java.util.TreeSet;
 import java.util.regex.Matcher;
@@ -19,12 +22,17 @@ public final class FaceTest {
         + "letWin(int,int,int) win(int,int,int) next(int) beats(int,int) spread(int) dry(int,int) see(int,int) "
         + "truly(int) tryNext() write(int,int) judge() tear() seed(int) keep(int) goBack(int)";
 
-    public static void main(String[] args) throws IOException {
+    /** A run may have a new object for each of 512 calls, and a room of 600,000 objects and 7.3 million cells. */
+    private static final int MOST_OBJECTS = 600000 / 512, MOST_CELLS = 7300000 / 512;
+
+    public static void main(String[] args) throws IOException, IllegalAccessException {
         constants();
         methods();
         fields();
         classesInside();
         source();
+        room();
+        nothingIsMadeByCalls();
         Due.end("FaceTest");
     }
 
@@ -116,5 +124,49 @@ public final class FaceTest {
             }
         }
         hold("methods stay short: " + deep, deep < 60);
+    }
+
+    // ---- the room that all calls of a run live in
+
+    private static void room() throws IllegalAccessException {
+        Map<Object, Boolean> seen = new IdentityHashMap<>();
+        int cells = cellsFrom(new SecondBest(), seen);
+        hold("one object has a room of its own: " + seen.size() + " objects, " + cells + " cells",
+            seen.size() > 1 && seen.size() <= MOST_OBJECTS && cells <= MOST_CELLS);
+    }
+
+    /** How many fields and elements there are in all that can be reached from one object. */
+    private static int cellsFrom(Object from, Map<Object, Boolean> seen) throws IllegalAccessException {
+        if (from == null || seen.put(from, true) != null) {
+            return 0;
+        }
+        if (from.getClass().isArray()) {
+            int cells = Array.getLength(from);
+            for (int i = 0; from instanceof Object[] && i < Array.getLength(from); i++) {
+                cells += cellsFrom(Array.get(from, i), seen);
+            }
+            return cells;
+        }
+        int cells = 0;
+        for (Field f : from.getClass().getDeclaredFields()) {
+            if (!Modifier.isStatic(f.getModifiers())) {
+                f.setAccessible(true);
+                cells += 1 + (f.getType().isPrimitive() ? 0 : cellsFrom(f.get(from), seen));
+            }
+        }
+        return cells;
+    }
+
+    /** All rows are made with the object itself: as fields, or in the two constructors that fill rows of objects. */
+    private static void nothingIsMadeByCalls() throws IOException {
+        int filled = 0;
+        for (String line : Files.readAllLines(Path.of("src/main/java/SecondBest.java"))) {
+            if (line.matches(" +(images|states)\\[i\\] = new \\w+\\(\\);")) {
+                filled++;
+            } else if (line.matches(".*\\bnew\\b.*")) {
+                hold("made with the object: " + line.trim(), line.matches(" +(private |final )+[\\w\\[\\]]+ \\w+ = new [^;]+;"));
+            }
+        }
+        Due.due("rows of objects that are filled", filled, 2);
     }
 }
